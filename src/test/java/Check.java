@@ -2,12 +2,18 @@
 final class Check {
     private int wrong = 0;
     private int asked = 0;
+    private String sentence = "";
+
+    /** From here on a wrong answer is printed with these words of the document, which it breaks. */
+    void sentence(String words) {
+        sentence = " [" + words + "]";
+    }
 
     void due(String call, long got, long want) {
         asked++;
         if (got != want) {
             wrong++;
-            System.out.println(call + " answered " + got + ", due is " + want);
+            System.out.println(call + " answered " + got + ", due is " + want + sentence);
         }
     }
 
@@ -15,7 +21,7 @@ final class Check {
         asked++;
         if (!is) {
             wrong++;
-            System.out.println("does not hold: " + what);
+            System.out.println("does not hold: " + what + sentence);
         }
     }
 
