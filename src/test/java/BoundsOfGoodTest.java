@@ -90,8 +90,8 @@ public final class BoundsOfGoodTest {
     }
 
     private static void goodForItsKindAlone() {
-        int[][] numbers = {{5, -1, 0, 0}, {5, -1, 0, 0}, {5, 5, 9999, 9999}, {0, 0, 0, 0}, {3, 7, 9999, 0}, {3, 7, 63, 0},
-            {3, 5, 7, 9999}};
+        int[][] numbers = {{5, -1, 0, 0}, {5, -1, 0, 0}, {5, 5, 9999, 9999}, {0, 0, 0, 0}, {3, 7, 9999, 0},
+            {3, 7, 63, 0}, {3, 5, 7, 9999}};
         String[] terms = {"P---", "P---", "PPPP", "R---", "RP--", "----", "----"};
         String[] goodKinds = {"12", "12", "3", "4", "5", "6", "7"};
         for (int i = 0; i < 7; i++) {

@@ -269,11 +269,10 @@ public final class BoundsOfTermsTest {
     private static void madeTheFirstTimeOnly() {
         for (Calls.Target target : Calls.targets()) {
             boolean isSecret = target.sort() == 1;
-            boolean isPart = target.name().equals("part");
             TermSpread t = Sample.fresh();
             int made = t.count(0);
             target.call().on(t, 30);
-            CHECK.due(target.name() + " the first time", t.count(0) - made, isPart ? 0 : 1);
+            CHECK.due(target.name() + " the first time", t.count(0) - made, target.madeAtFirst());
             made = t.count(0);
             target.call().on(t, 31);
             CHECK.due(target.name() + " the second time", t.count(0) - made, isSecret ? 1 : 0);

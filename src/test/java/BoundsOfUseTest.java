@@ -224,7 +224,7 @@ public final class BoundsOfUseTest {
                 int made = t.count(0);
                 CHECK.due(target.name() + " into " + r, target.call().on(t, r), 1);
                 CHECK.due(target.name() + ": sort in " + r, t.about(r, 0), target.sort());
-                CHECK.due(target.name() + " into " + r + ": MADE", t.count(0) - made, target.name().equals("part") ? 0 : 1);
+                CHECK.due(target.name() + " into " + r + ": MADE", t.count(0) - made, target.madeAtFirst());
             }
         }
     }
@@ -345,7 +345,7 @@ public final class BoundsOfUseTest {
             target.call().on(t, 64);
             target.call().on(t, 0);
             CHECK.due(target.name() + ": MADE by the call that was not refused", t.count(0) - made,
-                target.name().equals("part") ? 0 : 1);
+                target.madeAtFirst());
         }
     }
 

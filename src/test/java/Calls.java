@@ -1,7 +1,7 @@
 import java.util.ArrayList;
 import java.util.List;
 
-/** Every place of the document's face where a register is named: all other arguments are as Sample.fresh() wants them. */
+/** Every place of the document's face where a register is named; all other arguments are right for Sample.fresh(). */
 final class Calls {
     /** A call with a register of the tester's choice in one place. */
     interface Call {
@@ -10,9 +10,13 @@ final class Calls {
 
     /** Where a term is put: what about(r, 0) answers then. */
     record Target(String name, int sort, Call call) {
+        /** How many terms are MADE by the first such call: part alone hands out one that is MADE already. */
+        int madeAtFirst() {
+            return name.equals("part") ? 0 : 1;
+        }
     }
 
-    /** Where a term is wanted: which sort it has to be, 0 if any. Nothing alone: -1 stands for NOTHING there. */
+    /** Where a term is wanted: which sort it has to be (0: any), and whether -1 stands for NOTHING there. */
     record Source(String name, int sort, boolean takesNothing, Call call) {
         /** The register of Sample.fresh() that has such a term. */
         int goodRegister() {
@@ -23,7 +27,6 @@ final class Calls {
     private Calls() {
     }
 
-    /** None of these terms but that of part is MADE before. */
     static List<Target> targets() {
         return List.of(
             new Target("secret", 1, (t, r) -> t.secret(r)),
