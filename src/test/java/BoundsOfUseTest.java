@@ -21,6 +21,7 @@ public final class BoundsOfUseTest {
         theFirstTermIsKnownToTheLast();
         termsOfEverySortAreKnownToTheLast();
         boxesOpenOneByOne();
+        theLongestChainInOneGive();
         everyObjectHasItsOwnCalls();
 
         CHECK.sentence("what later calls answer is free");
@@ -188,6 +189,17 @@ public final class BoundsOfUseTest {
             CHECK.due("way " + way + ": all keys", t.give(way == 0 ? 0 : last), boxes + 1);
             CHECK.due("way " + way + ": the key at the end", t.derived(way == 0 ? last : 0), 1);
         }
+    }
+
+    /** The first key is the head of the first box: 511 terms come of the last call, most of them one by one. */
+    private static void theLongestChainInOneGive() {
+        TermSpread t = new TermSpread();
+        t.secret(0);
+        for (int i = 0; i < 255; i++) {
+            t.secret(1 + i % 2);
+            t.sealed(4, i == 0 ? 0 : 2 - i % 2, i == 0 ? 0 : 4, 1 + i % 2);
+        }
+        CHECK.due("give as the 512th call", t.give(4), CALLS - 1);
     }
 
     private static void everyObjectHasItsOwnCalls() {
